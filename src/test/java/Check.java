@@ -1,0 +1,115 @@
+import java.util.function.IntSupplier;
+
+/** What the tests share: dues that are counted, exceptions that change nothing, texts that are given. */
+final class Check {
+    private static int asked = 0;
+    private static int wrong = 0;
+
+    private Check() {
+    }
+
+    static void due(String call, long got, long want) {
+        asked++;
+        if (got != want) {
+            report(call + " answered " + got + ", due is " + want);
+        }
+    }
+
+    static void dueDouble(String call, double got, double want) {
+        asked++;
+        if (Double.doubleToRawLongBits(got) != Double.doubleToRawLongBits(want)) {
+            report(call + " answered " + got + ", due is " + want);
+        }
+    }
+
+    static void dueTrue(String claim, boolean holds) {
+        asked++;
+        if (!holds) {
+            report("does not hold: " + claim);
+        }
+    }
+
+    /** The call throws exactly this exception and changes nothing. */
+    static void dueThrow(String call, BondLayers x, Class<? extends RuntimeException> type, IntSupplier run) {
+        asked++;
+        long before = x.digest();
+        int errorBefore = x.firstError();
+        try {
+            int got = run.getAsInt();
+            report(call + " answered " + got + ", due is " + type.getSimpleName());
+        } catch (RuntimeException thrown) {
+            if (thrown.getClass() != type) {
+                report(call + " threw " + thrown + ", due is " + type.getSimpleName());
+            }
+        }
+        due(call + ", then digest()", x.digest(), before);
+        due(call + ", then firstError()", x.firstError(), errorBefore);
+    }
+
+    static void dueIndex(String call, BondLayers x, IntSupplier run) {
+        dueThrow(call, x, IndexOutOfBoundsException.class, run);
+    }
+
+    static void dueArgument(String call, BondLayers x, IntSupplier run) {
+        dueThrow(call, x, IllegalArgumentException.class, run);
+    }
+
+    static void dueState(String call, BondLayers x, IntSupplier run) {
+        dueThrow(call, x, IllegalStateException.class, run);
+    }
+
+    /** Puts a text into the emptied buffer. */
+    static void write(BondLayers x, String text) {
+        x.clearBuffer();
+        for (int index = 0; index < text.length(); index++) {
+            x.append(text.charAt(index));
+        }
+    }
+
+    static int give(BondLayers x, String text) {
+        write(x, text);
+        return x.give();
+    }
+
+    /** An object whose persons 0, 1, 2 .. have these amounts of cash. */
+    static BondLayers withCash(int... amounts) {
+        BondLayers x = new BondLayers();
+        for (int person = 0; person < amounts.length; person++) {
+            if (amounts[person] > 0) {
+                x.bring(person, amounts[person]);
+            }
+        }
+        return x;
+    }
+
+    static void dueCash(String call, BondLayers x, int... amounts) {
+        for (int person = 0; person < amounts.length; person++) {
+            due(call + ", then person(" + person + ", 0)", x.person(person, 0), amounts[person]);
+        }
+    }
+
+    /** What is left of the limits of a bond, layer by layer. */
+    static void dueLeft(String call, BondLayers x, int bond, int... lefts) {
+        for (int layer = 0; layer < lefts.length; layer++) {
+            due(call + ", then layer(" + bond + ", " + layer + ", 2)", x.layer(bond, layer, 2), lefts[layer]);
+        }
+    }
+
+    static void end(String test) {
+        System.out.println(test + ": " + asked + " answers, " + wrong + " wrong");
+        if (wrong != 0) {
+            System.exit(1);
+        }
+    }
+
+    static boolean hasWrong() {
+        return wrong != 0;
+    }
+
+    private static void report(String line) {
+        wrong++;
+        if (wrong <= 40) {
+            System.out.println(line);
+        }
+    }
+}
