@@ -1,5 +1,3 @@
-import java.util.Arrays;
-
 /**
  * Bonds among contractors: persons with cash, bonds for works with those bound in layers, calls by
  * proof that are paid by the principal first and then by the layers, one by one or shared by their
@@ -573,15 +571,15 @@ public final class BondLayers {
         }
 
         int layerFact(int bond, int layer, int fact) {
-            return bondFact(bond, FIRST_LAYER + layer * LAYER_SIZE + fact);
+            return cells[BONDS_AT + bond * BOND_SIZE + FIRST_LAYER + layer * LAYER_SIZE + fact];
         }
 
         void putLayerFact(int bond, int layer, int fact, int value) {
-            putBondFact(bond, FIRST_LAYER + layer * LAYER_SIZE + fact, value);
+            cells[BONDS_AT + bond * BOND_SIZE + FIRST_LAYER + layer * LAYER_SIZE + fact] = value;
         }
 
         void addLayerFact(int bond, int layer, int fact, int amount) {
-            addBondFact(bond, FIRST_LAYER + layer * LAYER_SIZE + fact, amount);
+            cells[BONDS_AT + bond * BOND_SIZE + FIRST_LAYER + layer * LAYER_SIZE + fact] += amount;
         }
 
         int cashOfAll() {
@@ -704,11 +702,12 @@ public final class BondLayers {
             }
         }
 
-        /** Adds the bond that was read; the caller has seen that there is room. */
+        /**
+         * Adds the bond that was read; the caller has seen that there is room. The cells behind the
+         * last bond are all 0, as undo brings back the whole row.
+         */
         int addBond(BondText text) {
             int bond = bondCount();
-            // an undone bond may have stood in these cells
-            Arrays.fill(cells, BONDS_AT + bond * BOND_SIZE, BONDS_AT + (bond + 1) * BOND_SIZE, 0);
             putBondFact(bond, PRINCIPAL, text.principal());
             putBondFact(bond, SUM, text.sum());
             putBondFact(bond, WAY, text.way());

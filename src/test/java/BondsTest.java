@@ -9,9 +9,11 @@ public final class BondsTest {
         sharedByLimits();
         sharedWithEqualRemainders();
         sharedWithoutLimitsLeft();
+        sharedWithOneLeft();
         greatProducts();
         callIsCutToWhatIsLeft();
         chainMakesGood();
+        chainIsRoundedDown();
         suretyInTheChain();
         recoveredCashCanBeUsedAgain();
         counterGuarantorIsALaterSurety();
@@ -85,6 +87,7 @@ public final class BondsTest {
         // 1 * 9 / 29 and 1 * 10 / 29: the greater remainder is that of the second layer
         Check.due("call(0, 1, 5)", x.call(0, 1, 5), 1);
         Check.dueLeft("1 more", x, 0, 9, 9, 10);
+        Check.due("bond(0, 10)", x.bond(0, 10), 28);
         Check.due("call(0, 29, 5), 28 of it by the layers", x.call(0, 29, 5), 28);
         Check.dueLeft("all", x, 0, 0, 0, 0);
         BondLayers y = Check.withCash(0, 100, 100, 100);
@@ -101,6 +104,15 @@ public final class BondsTest {
         Check.due("thin(0), no limit is left", x.thin(0), -1);
         Check.due("bond(0, 9)", x.bond(0, 9), 60);
         Check.dueCash("no limit is left", x, 0, 90);
+    }
+
+    private static void sharedWithOneLeft() {
+        BondLayers x = Check.withCash(0, 100, 100);
+        Check.give(x, "p0s100:1*1+2*1@1e");
+        Check.due("call(0, 1, 5)", x.call(0, 1, 5), 1);
+        Check.dueLeft("1 is left", x, 0, 0, 1);
+        Check.due("call(0, 7, 5), by the last 1", x.call(0, 7, 5), 1);
+        Check.dueLeft("none is left", x, 0, 0, 0);
     }
 
     private static void greatProducts() {
@@ -149,6 +161,20 @@ public final class BondsTest {
         Check.due("layer(0, 0, 3)", x.layer(0, 0, 3), 100);
         Check.due("bond(0, 7)", x.bond(0, 7), 165);
         Check.due("count(5)", x.count(5), 165);
+    }
+
+    private static void chainIsRoundedDown() {
+        BondLayers x = Check.withCash(0, 1000, 1000, 1000);
+        x.guarantee(0, 2, 99);
+        Check.give(x, "p0s500:1*400@1l");
+        Check.due("call(0, 100, 5)", x.call(0, 100, 5), 100);
+        Check.due("person(2, 9), 99 of 100", x.person(2, 9), 99);
+        Check.due("call(0, 1, 5)", x.call(0, 1, 5), 1);
+        Check.due("person(2, 9), 0 of 1", x.person(2, 9), 99);
+        x.guarantee(0, 2, 1);
+        x.call(0, 199, 5);
+        Check.due("person(2, 9), 1 of 199", x.person(2, 9), 100);
+        Check.due("debt(0, 1)", x.debt(0, 1), 200);
     }
 
     private static void suretyInTheChain() {

@@ -122,6 +122,9 @@ public final class LooksTest {
         Check.dueArgument("bond(0, -1)", x, () -> x.bond(0, -1));
         Check.dueIndex("layer(3, 0, 0)", x, () -> x.layer(3, 0, 0));
         Check.dueIndex("layer(-1, 0, 0)", x, () -> x.layer(-1, 0, 0));
+        Check.dueIndex("layer(-2, 0, 0)", x, () -> x.layer(-2, 0, 0));
+        Check.dueIndex("layer(10, 0, 0)", x, () -> x.layer(10, 0, 0));
+        Check.dueIndex("layer(MAX, 0, 0)", x, () -> x.layer(Integer.MAX_VALUE, 0, 0));
         Check.dueIndex("layer(0, 2, 0)", x, () -> x.layer(0, 2, 0));
         Check.dueIndex("layer(2, 1, 4)", x, () -> x.layer(2, 1, 4));
         Check.dueIndex("layer(0, -1, 0)", x, () -> x.layer(0, -1, 0));
@@ -131,6 +134,7 @@ public final class LooksTest {
         Check.dueIndex("debt(0, 8)", x, () -> x.debt(0, 8));
         Check.dueIndex("debt(-1, 0)", x, () -> x.debt(-1, 0));
         Check.dueIndex("debt(0, -1)", x, () -> x.debt(0, -1));
+        Check.dueArgument("count(MAX)", x, () -> x.count(Integer.MAX_VALUE));
         Check.dueArgument("count(10)", x, () -> x.count(10));
         Check.dueArgument("count(-1)", x, () -> x.count(-1));
         Check.dueIndex("setting(3)", x, () -> x.setting(3));

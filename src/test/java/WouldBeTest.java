@@ -112,7 +112,9 @@ public final class WouldBeTest {
         x.reach(1);
         x.call(1, 5, 5);
         Check.due("worst()", x.worst(), 1);
-        x.bring(0, 10);
+        x.bring(0, 9);
+        Check.due("worst() of two losses of 1", x.worst(), 1);
+        x.bring(0, 1);
         Check.due("worst() with help of the principal", x.worst(), -1);
     }
 
@@ -216,6 +218,13 @@ public final class WouldBeTest {
         dueDigest(x, "");
         x.call(0, 9, 9);
         dueDigest(x, "");
+        BondLayers z = Check.withCash(0, 9);
+        Check.give(z, "p0s9:1*9@1l");
+        z.set(1, 0);
+        z.takeOut(1, 9);
+        z.call(0, 9, 9);
+        Check.dueDouble("paidShare() of a loss", z.paidShare(), 0.0);
+        dueDigest(z, "");
         BondLayers y = Check.withCash(0, 9);
         Check.give(y, "p0s9:1*9@1l");
         y.takeOut(1, 7);
