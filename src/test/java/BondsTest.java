@@ -17,6 +17,7 @@ public final class BondsTest {
         suretyInTheChain();
         recoveredCashCanBeUsedAgain();
         counterGuarantorIsALaterSurety();
+        bondsDoNotTouch();
         callThrows();
         reach();
         reachIsCutToWhatIsLeft();
@@ -175,6 +176,10 @@ public final class BondsTest {
         x.call(0, 199, 5);
         Check.due("person(2, 9), 1 of 199", x.person(2, 9), 100);
         Check.due("debt(0, 1)", x.debt(0, 1), 200);
+        x.guarantee(0, 2, 100);
+        x.call(0, 1, 5);
+        Check.due("person(2, 9), 1 of 1", x.person(2, 9), 101);
+        Check.due("debt(0, 1)", x.debt(0, 1), 200);
     }
 
     private static void suretyInTheChain() {
@@ -223,6 +228,25 @@ public final class BondsTest {
         Check.due("call(0, 60, 5), shared", y.call(0, 60, 5), 45);
         Check.dueCash("a later surety, shared", y, 0, 85, 0);
         Check.dueLeft("trimmed from the last on", y, 0, 10, 10);
+    }
+
+    private static void bondsDoNotTouch() {
+        BondLayers x = Check.withCash(0, 99, 99, 99, 99);
+        for (int bond = 0; bond < 10; bond++) {
+            int limit = 10 + bond;
+            Check.give(x, "p0s100:1*" + limit + "+2*" + limit + "+3*" + limit + "+4*" + limit + "@10+20+30+40+50l");
+        }
+        for (int bond = 9; bond >= 0; bond--) {
+            Check.due("call", x.call(bond, 4, 5), 4);
+        }
+        for (int bond = 0; bond < 10; bond++) {
+            int limit = 10 + bond;
+            Check.dueLeft("ten bonds", x, bond, limit - 4, limit, limit, limit);
+            Check.due("bond(" + bond + ", 4)", x.bond(bond, 4), 5);
+            for (int milestone = 1; milestone <= 5; milestone++) {
+                Check.due("reach(" + bond + ")", x.reach(bond), milestone);
+            }
+        }
     }
 
     private static void callThrows() {
