@@ -1,4 +1,7 @@
+import java.util.Arrays;
 import java.util.function.IntSupplier;
+import java.util.function.Supplier;
+import java.util.function.ToIntFunction;
 
 /** What the tests share: dues that are counted, exceptions that change nothing, texts that are given. */
 final class Check {
@@ -46,6 +49,40 @@ final class Check {
         due(call + ", then firstError()", x.firstError(), errorBefore);
     }
 
+    /**
+     * The call is refused by exactly this exception, and what comes after it is what comes after
+     * an object that was made alike and was not asked: the saved states, the milestones, the buffer.
+     */
+    static void dueRefused(String call, Class<? extends RuntimeException> type, Supplier<BondLayers> made,
+            ToIntFunction<BondLayers> run) {
+        BondLayers undone = made.get();
+        dueThrow(call, undone, type, () -> run.applyAsInt(undone));
+        dueTrue(call + " leaves the saved states", Arrays.equals(undos(undone), undos(made.get())));
+        BondLayers reached = made.get();
+        dueThrow(call, reached, type, () -> run.applyAsInt(reached));
+        dueTrue(call + " leaves the bonds and the buffer", Arrays.equals(reaches(reached), reaches(made.get())));
+    }
+
+    private static long[] undos(BondLayers x) {
+        long[] seen = new long[8];
+        for (int times = 0; times < seen.length; times++) {
+            seen[times] = x.count(9) > 0 ? 1000L + x.undo() + 31 * x.digest() : 0;
+        }
+        return seen;
+    }
+
+    private static long[] reaches(BondLayers x) {
+        long[] seen = new long[x.count(0) + 2];
+        for (int bond = 0; bond < x.count(0); bond++) {
+            while (x.bond(bond, 11) == 1 && x.bond(bond, 5) < x.bond(bond, 4)) {
+                seen[bond] = 1000003L * seen[bond] + x.reach(bond);
+            }
+        }
+        seen[x.count(0)] = x.digest();
+        seen[x.count(0) + 1] = x.clearBuffer();
+        return seen;
+    }
+
     static void dueIndex(String call, BondLayers x, IntSupplier run) {
         dueThrow(call, x, IndexOutOfBoundsException.class, run);
     }
@@ -80,6 +117,34 @@ final class Check {
             }
         }
         return x;
+    }
+
+    /** An object that has this text in the buffer, too. */
+    static BondLayers withText(String text, int... amounts) {
+        BondLayers x = withCash(amounts);
+        write(x, text);
+        return x;
+    }
+
+    /** An object that has been given the bond 0 of this text, too. */
+    static BondLayers withBond(String text, int... amounts) {
+        BondLayers x = withCash(amounts);
+        due("give() of " + text, give(x, text), 0);
+        return x;
+    }
+
+    /** What the layers of a bond paid so far, layer by layer. */
+    static void duePaid(String call, BondLayers x, int bond, int... paid) {
+        for (int layer = 0; layer < paid.length; layer++) {
+            due(call + ", then layer(" + bond + ", " + layer + ", 3)", x.layer(bond, layer, 3), paid[layer]);
+        }
+    }
+
+    /** What a person owes to the persons 0, 1, 2 .. */
+    static void dueDebts(String call, BondLayers x, int person, int... debts) {
+        for (int other = 0; other < debts.length; other++) {
+            due(call + ", then debt(" + person + ", " + other + ")", x.debt(person, other), debts[other]);
+        }
     }
 
     static void dueCash(String call, BondLayers x, int... amounts) {
