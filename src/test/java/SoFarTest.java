@@ -16,6 +16,9 @@ public final class SoFarTest {
         releasedSoFar();
         byANewBond();
         anyCashForACall();
+        everybodyOwesToEverybody();
+        sumsOfAllDebts();
+        debtsAreNoBonds();
         Check.end("SoFarTest");
     }
 
@@ -225,5 +228,108 @@ public final class SoFarTest {
         Check.give(y, "p0s500:1*100@1l");
         Check.due("by a principal who is bound", y.call(1, 100, 9), 100);
         Check.dueCash("all of it", y, 0, 100);
+    }
+
+    /** What a person owes to the ones 0, 1, 2 .. 7 numbers farther on, for bonds that are not ten times as great. */
+    private static final int[] OWED = {0, 3, 2, 3, 4, 1, 2, 3};
+
+    private static int times(int principal) {
+        return principal == 4 ? 10 : 1;
+    }
+
+    /** Eight bonds of eight principals, each paid by the next four, and made good in part by the three behind them. */
+    private static BondLayers owing() {
+        BondLayers x = Check.withCash(99, 99, 99, 99, 99, 99, 99, 99);
+        x.set(1, 0);
+        x.set(2, 9);
+        for (int principal = 0; principal < 8; principal++) {
+            int times = times(principal);
+            int[] limits = {9 * times, 2 * times, 3 * times, 5 * times};
+            StringBuilder text = new StringBuilder("p" + principal + "s" + 100 * times + ":");
+            for (int layer = 0; layer < 4; layer++) {
+                int surety = (principal + 1 + layer) % 8;
+                text.append(layer == 0 ? "" : "+").append(surety).append('*').append(limits[layer]);
+            }
+            Check.give(x, text + "@1l");
+        }
+        for (int principal = 0; principal < 8; principal++) {
+            callWithAChain(x, principal);
+        }
+        for (int person = 0; person < 8; person++) {
+            makeCash(x, person, 0);
+        }
+        return x;
+    }
+
+    /** 18 are called; of the 9 of the first layer 1, 2 and 3 are made good, then the chain has no cash. */
+    private static void callWithAChain(BondLayers x, int principal) {
+        int times = times(principal);
+        int[] cash = {0, 9, 2, 3, 4, 1, 2, 3};
+        for (int step = 0; step < 8; step++) {
+            makeCash(x, (principal + step) % 8, cash[step] * times);
+        }
+        int[] chain = {principal, (principal + 5) % 8, (principal + 6) % 8, (principal + 7) % 8};
+        for (int place = 0; place < 3; place++) {
+            x.guarantee(chain[place], chain[place + 1], 100);
+        }
+        Check.due("call(" + principal + ", ..)", x.call(principal, 18 * times, 9), 18 * times);
+        for (int place = 0; place < 3; place++) {
+            x.guarantee(chain[place], BondLayers.NONE, 0);
+        }
+    }
+
+    private static void makeCash(BondLayers x, int person, int amount) {
+        int cash = x.person(person, 0);
+        if (cash < amount) {
+            x.bring(person, amount - cash);
+        } else if (cash > amount) {
+            x.takeOut(person, cash - amount);
+        }
+    }
+
+    /** Promise 18: "Returns what a person owes to another one": of each to each. */
+    private static void everybodyOwesToEverybody() {
+        BondLayers x = owing();
+        for (int person = 0; person < 8; person++) {
+            for (int step = 0; step < 8; step++) {
+                int other = (person + step) % 8;
+                Check.due("debt(" + person + ", " + other + ")", x.debt(person, other), OWED[step] * times(person));
+            }
+        }
+    }
+
+    /** Promises 15, 19, 23: sums of these debts, and what has nothing to do with them. */
+    private static void sumsOfAllDebts() {
+        BondLayers x = owing();
+        for (int person = 0; person < 8; person++) {
+            int toOthers = 18 * times(person);
+            // the one of ten times as much is person 4
+            int byOthers = 18 + 9 * OWED[(person + 4) % 8];
+            Check.due("person(" + person + ", 1)", x.person(person, 1), toOthers);
+            Check.due("person(" + person + ", 2)", x.person(person, 2), byOthers);
+            Check.due("person(" + person + ", 3)", x.person(person, 3), person == 0 ? 10 : 1);
+            Check.due("person(" + person + ", 10)", x.person(person, 10), 1);
+        }
+        int[] counts = {8, 8, 0, 306, 306, 306, 0, 306, 0, 6};
+        for (int what = 0; what <= 9; what++) {
+            Check.due("count(" + what + ")", x.count(what), counts[what]);
+        }
+        // nobody has cash, and ten times as much is left of bond 4
+        Check.due("worst()", x.worst(), 4);
+        Check.due("reach(4)", x.reach(4), 1);
+        Check.due("end(4)", x.end(4), 819);
+        Check.due("worst() of all alike", x.worst(), 0);
+        Check.due("count(8)", x.count(8), 820);
+        Check.due("person(0, 3), bound for bond 4 no more", x.person(0, 3), 0);
+    }
+
+    /** Promise 15: "10: bonds that run of which the person is the principal", whatever others owe. */
+    private static void debtsAreNoBonds() {
+        BondLayers x = Check.withBond("p5s9:7*5@1l", 0, 0, 0, 0, 0, 0, 0, 9);
+        x.call(0, 5, 9);
+        Check.due("debt(5, 7)", x.debt(5, 7), 5);
+        for (int person = 0; person < 8; person++) {
+            Check.due("person(" + person + ", 10)", x.person(person, 10), person == 5 ? 1 : 0);
+        }
     }
 }
